@@ -1683,7 +1683,8 @@ public final class BottledPost {
             goal = to;
             int mostBetween = Math.min(MOST_BETWEEN, shore.persons - 2);
             // By rising count, and within it by rising PERSONS: so the first of the like ones is the one that is due.
-            for (wanted = 0; wanted <= mostBetween; wanted++) {
+            for (int count = 0; count <= mostBetween; count++) {
+                wanted = count;
                 goOn(shore, from, tide, 0, 0, 1 << from | 1 << to);
             }
             return bestTime;
@@ -1734,7 +1735,8 @@ public final class BottledPost {
 
         boolean isWord(int word) {
             if (!within(word, 1, MOST_NUMBER)) return false;
-            for (int i = 0, rest = word; i < WORD_DIGITS && rest > 0; i++) {
+            int rest = word;
+            for (int i = 0; i < WORD_DIGITS && rest > 0; i++) {
                 if (rest % 10 == 0) return false;
                 rest /= 10;
             }
@@ -1751,11 +1753,12 @@ public final class BottledPost {
         }
 
         private static int digitsOf(int number) {
-            int digits = 0;
-            for (int rest = number; rest > 0 && digits < NUMBER_DIGITS; digits++) {
+            int rest = number;
+            for (int digits = 0; digits < NUMBER_DIGITS; digits++) {
+                if (rest <= 0) return digits;
                 rest /= 10;
             }
-            return digits;
+            return NUMBER_DIGITS;
         }
 
         private static boolean startsWith(int row, int head) {
