@@ -10,6 +10,7 @@ public final class ForetoldTest {
         relay();
         relayTies();
         relayBounds();
+        relayLegs();
         whereFrom();
         CHECK.close();
     }
@@ -235,6 +236,21 @@ public final class ForetoldTest {
         // At 4 behind 10 tides, kept for two, then 13 more; a bottle alone goes back to 0 from there.
         CHECK.due("by 2", way.relay(0, 1, -1), 25);
         CHECK.due("it is 2", way.relay(0, 1, 0), 2);
+    }
+
+    /** From 0 by 2 alone, and so on to 7 behind 19; the last one is by 0 behind 20, or by 1 behind 21. */
+    private static void relayLegs() {
+        for (int last = 0; last <= 1; last++) {
+            BottledPost post = Tapes.still();
+            post.person(0, 0);
+            post.person(8, 0);
+            post.current(0, 0, 9);
+            post.current(1, 0, 9);
+            for (int place = 0; place < 7; place++) post.current(2, place, place + 1);
+            post.current(last, 7, 8);
+            CHECK.due("soonest by " + last, post.soonest(0, 1, 0), 22 + last);
+            CHECK.due("relay by " + last, post.relay(0, 1, -1), last == 0 ? 22 : -2);
+        }
     }
 
     private static void whereFrom() {

@@ -5,6 +5,7 @@ public final class ImageTest {
     public static void main(String[] args) {
         backToIt();
         stepsToo();
+        sayingsToo();
         textsToo();
         about();
         CHECK.close();
@@ -101,6 +102,41 @@ public final class ImageTest {
         for (int i = 5; i >= 0; i--) CHECK.due("undo", post.undo(), i);
         CHECK.due("to the begin", post.is(3), 0);
         CHECK.due("no more", post.undo(), -1);
+    }
+
+    /** What was forgotten and told otherwise is as it was. */
+    private static void sayingsToo() {
+        BottledPost post = new BottledPost();
+        post.person(0, 0);
+        post.person(1, 0);
+        post.toss(0, 1, 9);
+        post.toss(1, 0, 9);
+        Tapes.read(post, "comes 2+from;");
+        post.found(5, 2);
+        post.odds(3, 4);
+        post.code(1);
+        post.code(11);
+        post.said(0, 2);
+        post.said(1, 3);
+        post.image();
+        post.found(-1, 0);
+        post.found(6, 3);
+        post.odds(3, 0);
+        post.code(-1);
+        post.code(2);
+        post.code(3);
+        post.said(-1, 0);
+        post.said(1, 2);
+        post.said(0, 7);
+        CHECK.due("whose otherwise", post.whose(), 0);
+        post.back();
+        CHECK.due("found", post.tossed(0), 22);
+        // Of a still one there: 3 of 10, and 3 of the 3 of 10 that are afloat yet: 39 of 100.
+        post.current(0, 1, 1);
+        post.current(1, 1, 1);
+        CHECK.due("odds", post.likely(1, 1, 2, false), 39);
+        CHECK.due("codes", post.reads(11), 2);
+        CHECK.due("whose", post.whose(), 1);
     }
 
     private static void textsToo() {

@@ -29,6 +29,17 @@ public final class PlayedTest {
         CHECK.due("lines", post.book(-1, 0), 2);
         CHECK.due("a step back", post.undo(), 4);
         CHECK.due("afloat", post.ofBottle(0, 4), 0);
+        BottledPost other = new BottledPost();
+        Tapes.read(other, "person 9 luck 0;person 2 luck 0;person 9 luck 5;current 2 from 9 to 0;current 1 from 0 to 7;"
+            + "toss 1 to 0 cork 7;toss 0 to 1 cork 99;fish 1 by 2;again 1;fish 1 by 2;");
+        CHECK.due("all is done", other.played(0), -1);
+        CHECK.due("told", other.told(2, 9), 0);
+        CHECK.due("told too", other.told(1, 0), 7);
+        CHECK.due("FROM", other.ofBottle(0, 0), 1);
+        CHECK.due("TO", other.ofBottle(0, 1), 0);
+        CHECK.due("CORK", other.ofBottle(1, 3), 99);
+        CHECK.due("kept by 2", other.ofBottle(1, 4), 5);
+        CHECK.due("twice", other.ledger(2), 2);
         CHECK.due("text -1", post.played(-1), -2);
         CHECK.due("text 1", post.played(1), -2);
         CHECK.due("text 4", post.played(4), -2);
