@@ -15,6 +15,13 @@ final class Check {
         if (wrong <= 50) System.out.println(name + ": " + call + " answered " + got + ", due is " + want);
     }
 
+    void due(String call, String got, String want) {
+        looked++;
+        if (got.equals(want)) return;
+        wrong++;
+        if (wrong <= 50) System.out.println(name + ": " + call + " left\n" + got + "due is\n" + want);
+    }
+
     void due(String call, boolean got, boolean want) {
         due(call, got ? 1 : 0, want ? 1 : 0);
     }
