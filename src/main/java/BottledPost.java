@@ -578,9 +578,9 @@ public final class BottledPost {
 
         Shore() {
             for (int place = 0; place < PLACES; place++) {
-                leads[place] = (place + 1) % PLACES;
-                leads[PLACES + place] = (place + 3) % PLACES;
-                leads[2 * PLACES + place] = place;
+                setCell(leads, place, (place + 1) % PLACES);
+                setCell(leads, PLACES + place, (place + 3) % PLACES);
+                setCell(leads, 2 * PLACES + place, place);
             }
         }
 
@@ -1743,13 +1743,23 @@ public final class BottledPost {
             return true;
         }
 
-        /** 1 with so many noughts; it is never 0. */
+        /** 1 with so many noughts. */
         private static int tenTo(int noughts) {
             int ten = 1;
             for (int i = 0; i < noughts && i < NUMBER_DIGITS; i++) {
                 ten *= 10;
             }
             return ten;
+        }
+
+        private static int withoutLast(int number, int digits) {
+            int ten = tenTo(digits);
+            return ten == 0 ? 0 : number / ten;
+        }
+
+        private static int lastOf(int number, int digits) {
+            int ten = tenTo(digits);
+            return ten == 0 ? 0 : number % ten;
         }
 
         private static int digitsOf(int number) {
@@ -1763,7 +1773,7 @@ public final class BottledPost {
 
         private static boolean startsWith(int row, int head) {
             int behind = digitsOf(row) - digitsOf(head);
-            return behind >= 0 && row / tenTo(behind) == head;
+            return behind >= 0 && withoutLast(row, behind) == head;
         }
 
         /** How many digits the shortest row has that is two unlike rows of words; NONE: all are clear. */
@@ -1801,7 +1811,7 @@ public final class BottledPost {
         /** The half that lags gets one more word, which must fit to the rest that the other is ahead by. */
         private void putBehind(Sayings sayings, int code, int behind, int next, int digits) {
             int length = digitsOf(sayings.word(code)) - behind;
-            int rest = sayings.word(code) % tenTo(length);
+            int rest = lastOf(sayings.word(code), length);
             int word = sayings.word(next);
             int more = digitsOf(word) - length;
             if (word == rest) {
@@ -1824,11 +1834,11 @@ public final class BottledPost {
             int digits = digitsOf(number);
             for (int end = 0; end <= digits && end < readings.length; end++) {
                 readings[end] = end == 0 ? 1 : 0;
-                int head = number / tenTo(digits - end);
+                int head = withoutLast(number, digits - end);
                 for (int i = 0; i < sayings.codes; i++) {
                     int word = sayings.word(i);
                     int length = digitsOf(word);
-                    if (length <= 0 || length > end || head % tenTo(length) != word) continue;
+                    if (length <= 0 || length > end || lastOf(head, length) != word) continue;
                     readings[end] += readings[end - length];
                 }
             }
