@@ -1467,11 +1467,15 @@ public final class BottledPost {
                 refuse(tape, TOO_DEEP);
             } else {
                 open++;
-                tape.comeToNext();
-                readAsk(tape);
-                addSign(Tape.NOT, 0);
+                readDenied(tape);
                 open--;
             }
+        }
+
+        private void readDenied(Tape tape) {
+            tape.comeToNext();
+            readAsk(tape);
+            addSign(Tape.NOT, 0);
         }
 
         private void readComparison(Tape tape) {
@@ -1701,12 +1705,16 @@ public final class BottledPost {
                 return;
             }
             for (int next = 0; next < shore.persons; next++) {
-                if ((used & 1 << next) != 0) continue;
-                int leg = meet(shore, person, next, tide + time, MOST_LEG);
-                if (leg == NONE || time + leg > MOST_TIDES) continue;
-                setCell(between, depth, next);
-                goOn(shore, next, tide, time + leg, depth + 1, used | 1 << next);
+                if ((used & 1 << next) == 0) goBy(next, shore, person, tide, time, depth, used);
             }
+        }
+
+        /** Goes on by one PERSON more. */
+        private void goBy(int next, Shore shore, int person, int tide, int time, int depth, int used) {
+            int leg = meet(shore, person, next, tide + time, MOST_LEG);
+            if (leg == NONE || time + leg > MOST_TIDES) return;
+            setCell(between, depth, next);
+            goOn(shore, next, tide, time + leg, depth + 1, used | 1 << next);
         }
 
         private void arrive(Shore shore, int person, int tide, int time) {
@@ -1848,9 +1856,9 @@ public final class BottledPost {
         /** The fewest sorters; who has which letter is in sorters then. */
         int fewestSorters(Sayings sayings, int n) {
             for (int count = 0; count < n; count++) {
-                if (share(sayings, 0, n, count)) return count;
+                if (share(sayings, sorters, 0, n, count)) return count;
             }
-            share(sayings, 0, n, n);
+            share(sayings, sorters, 0, n, n);
             return n;
         }
 
@@ -1859,18 +1867,18 @@ public final class BottledPost {
         }
 
         /** Gives the letters from one on to so many sorters, the lowest first. Its depth is that of the letters. */
-        private boolean share(Sayings sayings, int letter, int n, int count) {
+        private static boolean share(Sayings sayings, int[] sorters, int letter, int n, int count) {
             if (letter >= n || letter >= LETTERS) return true;
             // Who reads a letter first is never of a higher number than that letter, if the lowest are chosen.
             for (int sorter = 0; sorter < count && sorter <= letter; sorter++) {
-                if (!mayRead(sayings, letter, sorter)) continue;
+                if (!mayRead(sayings, sorters, letter, sorter)) continue;
                 setCell(sorters, letter, sorter);
-                if (share(sayings, letter + 1, n, count)) return true;
+                if (share(sayings, sorters, letter + 1, n, count)) return true;
             }
             return false;
         }
 
-        private boolean mayRead(Sayings sayings, int letter, int sorter) {
+        private static boolean mayRead(Sayings sayings, int[] sorters, int letter, int sorter) {
             for (int other = 0; other < letter; other++) {
                 if ((sayings.unlikeOf(letter) & 1 << other) != 0 && cell(sorters, other) == sorter) return false;
             }

@@ -9,6 +9,7 @@ import java.util.Arrays;
 import java.util.List;
 import java.util.Set;
 import java.util.TreeSet;
+import java.util.regex.Pattern;
 
 /** Some rules of ../shared/LANGUAGE.md, as far as a look at the source and at the classes tells. */
 public final class LanguageTest {
@@ -63,6 +64,16 @@ public final class LanguageTest {
         }
     }
 
+    /** Rule 8: a method that calls itself is private static. */
+    private static void recursion(List<String> code, int first, int end) {
+        String head = code.get(first);
+        String name = head.replaceAll("\\(.*", "").replaceAll(".*\\W", "");
+        Pattern call = Pattern.compile("(?<![.\\w])" + name + "\\(");
+        boolean callsItself = code.subList(first + 1, end).stream().anyMatch(line -> call.matcher(line).find());
+        CHECK.due((first + 1) + ": calls itself, and is not private static",
+            callsItself && !head.contains("private static "), false);
+    }
+
     private static void source() throws IOException {
         List<String> lines = Files.readAllLines(Path.of("src/main/java/BottledPost.java"));
         List<String> code = new ArrayList<>();
@@ -80,6 +91,7 @@ public final class LanguageTest {
             int end = i;
             while (end < code.size() && !code.get(end).equals(close)) end++;
             CHECK.due((i + 1) + ": some sixty lines", end - i + 1 <= 60, true);
+            recursion(code, i, Math.min(end, code.size()));
         }
     }
 }
